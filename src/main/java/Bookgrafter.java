@@ -147,7 +147,7 @@ public final class Bookgrafter {
 
     public boolean has(int book, boolean isKey, int number) throws IndexOutOfBoundsException, IllegalArgumentException {
         Row row = bookAt(book);
-        checkUpTo(number, LAST_RANK);
+        checkUpTo(number, 99);
         return isKey ? row.isThere(row.rankOf(number)) : row.hasWorth(number);
     }
 
@@ -744,7 +744,7 @@ public final class Bookgrafter {
         }
 
         boolean isThere(int rank) {
-            return worthAt(rank) != NONE;
+            return rank >= 0 && rank < KEYS && worths[rank] != NONE;
         }
 
         int pairAt(int rank) {
