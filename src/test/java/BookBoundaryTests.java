@@ -372,6 +372,8 @@ public final class BookBoundaryTests {
         Checks.argument("put 0 5 5 0", "exchange 0 5 5 -2");
         Checks.argument("put 0 5 5 0", "exchange 0 5 6 100");
         Checks.argument("put 0 5 5 0", "exchange 0 5 100 5");
+        Checks.argument("put 0 5 5 0", "exchange 0 100 5 5");
+        Checks.argument("put 0 5 5 0", "exchange 0 -1 5 -1");
     }
 
     private static void take() {

@@ -485,12 +485,15 @@ public final class PromiseTests {
         }
     }
 
-    private static void near() {
-        promise = 13;
-        Bookgrafter x = new Bookgrafter();
-        fillBook(x, 0, 0, 1001, 2002, 3003);
+    private static Bookgrafter withThreeBooks() {
+        Bookgrafter x = withBook(0, 1001, 2002, 3003);
         fillBook(x, 1, 1, 1001, 2002, 3003);
         fillBook(x, 2, 2, 1101, 2002, 1303);
+        return x;
+    }
+
+    private static void near() {
+        promise = 13;
         int[][] due = {
             {0, 20, 20, 20, 10, 30, 20}, {0, 19, 10, 20, 10, 20, -1}, {0, 99, 30, -1, 30, -1, -1},
             {0, 0, -1, 10, -1, 10, -1}, {0, 10, 10, 10, -1, 20, 10}, {0, 30, 30, 30, 20, -1, 30},
@@ -499,6 +502,7 @@ public final class PromiseTests {
             {2, 10, -1, 20, -1, 20, -1}, {2, 12, 11, 13, 11, 13, -1}, {2, 9, 13, -1, 13, -1, -1},
             {3, 0, -1, -1, -1, -1, -1}, {3, 99, -1, -1, -1, -1, -1}};
         for (int[] row : due) {
+            Bookgrafter x = withThreeBooks();
             for (int what = 0; what <= 4; what++) {
                 int asked = what;
                 int key = row[what + 2];
@@ -508,6 +512,7 @@ public final class PromiseTests {
                 idle(x, "pair near", () -> x.near(row[0], row[1], asked, true), key < 0 ? -1 : key * 100 + worth);
             }
         }
+        Bookgrafter x = withThreeBooks();
         idle(x, "the pair itself", () -> x.near(2, 13, 4, true), 1303);
         badIndex(x, "book 4", () -> x.near(4, 100, 5, true));
         badArgument(x, "key 100", () -> x.near(0, 100, 0, true));

@@ -2,7 +2,8 @@ import java.lang.management.ManagementFactory;
 
 /** All 512 calls of an object live in one room: what the dearest ones make is measured and stays far below it. */
 public final class RoomTests {
-    private static final int CALLS = 512;
+    /** With the calls that fill the object they are 512. */
+    private static final int CALLS = 504;
     /** A fourth of some 7.3 million elements of four bytes. */
     private static final long MOST_BYTES = 7_300_000L;
     private static final com.sun.management.ThreadMXBean THREADS =
